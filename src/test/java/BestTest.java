@@ -1,0 +1,194 @@
+/** Promises 19 to 24: what is best. */
+public final class BestTest {
+    private static final Due due = new Due();
+
+    public static void main(String[] args) {
+        cousin();
+        kind();
+        keep();
+        best();
+        richest();
+        fewest();
+        fewestEdges();
+        due.end();
+    }
+
+    private static void cousin() {
+        PocketBorders x = new PocketBorders();
+        Due.one(x, 0, 70, 0);
+        Due.one(x, 0, 6, 0);
+        x.set(1, 3, 0);
+        String before = Due.seen(x);
+        due.is("19: cousin(1, 1), itself", x.cousin(1, 1), 2);
+        due.is("19: cousin(0, 80), all the same", x.cousin(0, 80), 0);
+        due.is("19: cousin(1, 0)", x.cousin(1, 0), Due.BEYOND);
+        due.is("19: cousin(1, 81)", x.cousin(1, 81), Due.BEYOND);
+        due.is("19: cousin(-1, 1)", x.cousin(-1, 1), Due.BEYOND);
+        due.is("19: cousin(2, 1)", x.cousin(2, 1), Due.BEYOND);
+        due.same("19: nothing changes", Due.seen(x), before);
+
+        // 1 has its border behind 0 in the same year and gives 15 back: as good as keeping it.
+        PocketBorders y = new PocketBorders();
+        Due.one(y, 0, 6, Due.set(15));
+        Due.one(y, 0, 6, 0);
+        y.set(1, 3, 0);
+        due.is("19: cousin(0, 1), the least of two", y.cousin(0, 1), 1);
+        y.set(1, 3, -1);
+        due.is("19: cousin(0, 1), 1 burns it", y.cousin(0, 1), 1);
+
+        // 0 is a year behind 1 and gives 15 back: as good as keeping it, and of a lesser number.
+        PocketBorders z = new PocketBorders();
+        Due.one(z, 0, 5, Due.set(14));
+        Due.one(z, 0, 6, Due.set(15));
+        z.set(0, 3, 1);
+        due.is("19: cousin(1, 1), 0 has it still", z.cousin(1, 1), 2);
+        z.set(0, 2, 0);
+        z.worth(14, 0);
+        z.worth(3, 0);
+        due.is("19: cousin(1, 2), 0 gives it back", z.cousin(1, 2), 1);
+        due.is("19: of(1, 3)", z.of(1, 3), -1);
+    }
+
+    private static void kind() {
+        PocketBorders x = new PocketBorders();
+        Due.one(x, 5, 0, 0);
+        String before = Due.seen(x);
+        due.is("20: kind(0, 1), an aunt finds 6", x.kind(0, 1), 3);
+        due.is("20: kind(0, 2), 5 and 10, or 6 and 11", x.kind(0, 2), 3);
+        due.is("20: kind(0, 0)", x.kind(0, 0), Due.BEYOND);
+        due.is("20: kind(0, 81)", x.kind(0, 81), Due.BEYOND);
+        due.is("20: kind(-1, 1)", x.kind(-1, 1), Due.BEYOND);
+        due.is("20: kind(1, 1)", x.kind(1, 1), Due.BEYOND);
+        due.same("20: nothing changes", Due.seen(x), before);
+        x.set(0, 1, 2);
+        due.is("20: kind(0, 1), 15 for three of them", x.kind(0, 1), 0);
+        x.set(0, 1, 70);
+        due.is("20: kind(0, 80), all the same", x.kind(0, 80), 0);
+        x.set(0, 1, 6);
+        x.set(0, 2, Due.set(0, 8, 15));
+        // 3 comes: person -15, hider -8, serious -0 without 3, aunt -15 with 4, swallower -3, uncle keeps 23.
+        due.is("20: kind(0, 1), at 7", x.kind(0, 1), 2);
+        x.set(0, 2, Due.set(1, 8, 15));
+        due.is("20: kind(0, 1), at 7, with 1", x.kind(0, 1), 4);
+        x.set(0, 2, Due.set(1, 3, 15));
+        due.is("20: kind(0, 1), at 7, with 1 3 15", x.kind(0, 1), 5);
+    }
+
+    private static void keep() {
+        PocketBorders x = new PocketBorders();
+        Due.one(x, 2, 6, Due.set(4, 9));
+        String before = Due.seen(x);
+        due.is("21: keep(0, 4, 1), above 9", x.keep(0, 4, 1), 10);
+        due.is("21: keep(0, 9, 1), as 4 goes first", x.keep(0, 9, 1), 4);
+        due.is("21: keep(0, 5, 1)", x.keep(0, 5, 1), Due.NONE);
+        due.is("21: keep(0, 4, 0)", x.keep(0, 4, 0), Due.BEYOND);
+        due.is("21: keep(0, 4, 81)", x.keep(0, 4, 81), Due.BEYOND);
+        due.is("21: keep(0, -1, 1)", x.keep(0, -1, 1), Due.BEYOND);
+        due.is("21: keep(0, 16, 1)", x.keep(0, 16, 1), Due.BEYOND);
+        due.is("21: keep(-1, 4, 1)", x.keep(-1, 4, 1), Due.BEYOND);
+        due.is("21: keep(1, 4, 1)", x.keep(1, 4, 1), Due.BEYOND);
+        due.same("21: nothing changes", Due.seen(x), before);
+        x.worth(9, 98);
+        due.is("21: keep(0, 4, 1), above 98", x.keep(0, 4, 1), 99);
+        x.worth(9, 99);
+        due.is("21: keep(0, 4, 1), above 99", x.keep(0, 4, 1), Due.NONE);
+        x.set(0, 1, 70);
+        due.is("21: keep(0, 4, 80)", x.keep(0, 4, 80), 0);
+    }
+
+    private static void best() {
+        PocketBorders x = new PocketBorders();
+        Due.one(x, 0, 6, 0);
+        String before = Due.seen(x);
+        due.is("22: best(0, 1), so that 3 stays", x.best(0, 1), 4);
+        due.is("22: best(0, 0)", x.best(0, 0), Due.BEYOND);
+        due.is("22: best(0, 81)", x.best(0, 81), Due.BEYOND);
+        due.is("22: best(-1, 1)", x.best(-1, 1), Due.BEYOND);
+        due.is("22: best(1, 1)", x.best(1, 1), Due.BEYOND);
+        due.same("22: nothing changes", Due.seen(x), before);
+        x.set(0, 1, 70);
+        due.is("22: best(0, 80), none goes", x.best(0, 80), 15);
+        x.set(0, 2, Due.set(15, 13));
+        due.is("22: best(0, 80), not what it has", x.best(0, 80), 14);
+        x.worth(2, 14);
+        due.is("22: best(0, 80), the least of two", x.best(0, 80), 2);
+        x.set(0, 2, 65535 - Due.set(11));
+        due.is("22: best(0, 80), the last", x.best(0, 80), 11);
+        x.set(0, 2, 65535);
+        due.is("22: best(0, 80), has all", x.best(0, 80), Due.NONE);
+        due.is("22: best(0, 81), has all", x.best(0, 81), Due.BEYOND);
+        x.set(0, 2, 65534);
+        x.worth(0, 0);
+        due.is("22: best(0, 1), worth nothing", x.best(0, 1), 0);
+    }
+
+    private static void richest() {
+        PocketBorders x = new PocketBorders();
+        due.is("23: richest(0), nobody", x.richest(0), Due.NONE);
+        due.is("23: richest(81), nobody", x.richest(81), Due.BEYOND);
+        due.is("23: richest(-1), nobody", x.richest(-1), Due.BEYOND);
+        Due.one(x, 0, 70, 0);
+        Due.one(x, 0, 70, 0);
+        due.is("23: richest(0), none has anything", x.richest(0), 0);
+        x.set(1, 2, Due.set(4));
+        due.is("23: richest(0)", x.richest(0), 1);
+        Due.one(x, 0, 6, Due.set(3, 5));
+        String before = Due.seen(x);
+        due.is("23: richest(0), three", x.richest(0), 2);
+        due.is("23: richest(1), 5 went", x.richest(1), 1);
+        due.is("23: richest(80)", x.richest(80), 2);
+        due.is("23: richest(81)", x.richest(81), Due.BEYOND);
+        due.same("23: nothing changes", Due.seen(x), before);
+        x.set(0, 2, Due.set(1, 3));
+        due.is("23: richest(1), the least of two", x.richest(1), 0);
+    }
+
+    private static void fewest() {
+        PocketBorders x = new PocketBorders();
+        Due.one(x, 1, 6, Due.set(5, 9));
+        String before = Due.seen(x);
+        due.is("24: fewest(0, 5, 1), a hider hides it then", x.fewest(0, 5, 1), Due.set(9));
+        due.is("24: fewest(0, 9, 1)", x.fewest(0, 9, 1), 0);
+        due.is("24: fewest(0, 3, 1), not there", x.fewest(0, 3, 1), Due.STATE);
+        due.same("24: nothing changes", Due.seen(x), before);
+
+        PocketBorders y = new PocketBorders();
+        Due.one(y, 4, 6, Due.set(5, 9, 12));
+        due.is("24: fewest(0, 5, 1), the least of two", y.fewest(0, 5, 1), Due.set(9));
+        y.set(0, 2, Due.set(0, 4, 5, 9, 12, 13));
+        due.is("24: fewest(0, 5, 1), stays so", y.fewest(0, 5, 1), 0);
+        due.is("24: fewest(0, 9, 1), one", y.fewest(0, 9, 1), Due.set(12));
+        y.turn(0, 1);
+        due.is("24: fewest(0, 9, 1), a hider, stays so", y.fewest(0, 9, 1), 0);
+        due.is("24: fewest(0, 12, 1), a hider", y.fewest(0, 12, 1), Due.set(13));
+
+        PocketBorders z = new PocketBorders();
+        Due.one(z, 2, 6, Due.set(4, 9));
+        due.is("24: fewest(0, 4, 1), serious", z.fewest(0, 4, 1), Due.NONE);
+        due.is("24: fewest(0, 9, 1), serious", z.fewest(0, 9, 1), 0);
+        z.turn(0, 0);
+        due.is("24: fewest(0, 9, 1), person", z.fewest(0, 9, 1), Due.NONE);
+        due.is("24: fewest(0, 9, 20), found again", z.fewest(0, 9, 20), 0);
+        due.is("24: fewest(0, 4, 1), person", z.fewest(0, 4, 1), 0);
+    }
+
+    private static void fewestEdges() {
+        PocketBorders x = new PocketBorders();
+        Due.one(x, 0, 69, 511);
+        due.is("24: fewest(0, 8, 20), eight others", x.fewest(0, 8, 20), 0);
+        due.is("24: fewest(0, 9, 1)", x.fewest(0, 9, 1), Due.STATE);
+        x.set(0, 2, 1023);
+        due.is("24: fewest(0, 8, 20), nine others", x.fewest(0, 8, 20), Due.SIZE);
+        due.is("24: fewest(0, 10, 20), nine others", x.fewest(0, 10, 20), Due.STATE);
+        due.is("24: fewest(0, 8, 21)", x.fewest(0, 8, 21), Due.BEYOND);
+        due.is("24: fewest(0, 8, 0)", x.fewest(0, 8, 0), Due.BEYOND);
+        due.is("24: fewest(0, -1, 1)", x.fewest(0, -1, 1), Due.BEYOND);
+        due.is("24: fewest(0, 16, 1)", x.fewest(0, 16, 1), Due.BEYOND);
+        due.is("24: fewest(-1, 8, 1)", x.fewest(-1, 8, 1), Due.BEYOND);
+        due.is("24: fewest(1, 8, 1)", x.fewest(1, 8, 1), Due.BEYOND);
+        x.set(0, 2, 1);
+        due.is("24: fewest(0, 0, 1), no others", x.fewest(0, 0, 1), 0);
+        x.set(0, 1, 70);
+        due.is("24: fewest(0, 0, 20), of 70", x.fewest(0, 0, 20), 0);
+    }
+}

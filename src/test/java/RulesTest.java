@@ -1,0 +1,91 @@
+import java.lang.reflect.Constructor;
+import java.lang.reflect.Field;
+import java.lang.reflect.Method;
+import java.lang.reflect.Modifier;
+import java.nio.file.Files;
+import java.nio.file.Path;
+import java.util.Set;
+import java.util.TreeSet;
+import java.util.regex.Matcher;
+import java.util.regex.Pattern;
+
+/** The public face of the document, and those rules of LANGUAGE.md that can be seen from outside. */
+public final class RulesTest {
+    private static final Due due = new Due();
+    private static final String FACE = "worth II|worthOf I|who I|person I|of II|set III|turn II|as II|give II|hand III"
+        + "|border I|years I|now I|on III|gets II|loses II|burns I|cousin II|kind II|keep III|best II|richest I"
+        + "|fewest III|feed II|wipe |family |sheet III|write IIJ|copy IIIII|lays I|book II|read II|image |undo |tear "
+        + "|count I|status I";
+    private static final String[] FORBIDDEN = {"throw", "throws", "try", "catch", "synchronized", "assert", "finally",
+        "->", "::", "protected", "\\w*Exact", "hashCode", "toString", "System\\.out", "Random", "Thread", "volatile"};
+
+    public static void main(String[] args) throws Exception {
+        face();
+        members();
+        source(Files.readString(Path.of("src/main/java/PocketBorders.java")));
+        due.end();
+    }
+
+    private static void face() {
+        Class<?> c = PocketBorders.class;
+        due.is("public and final", c.getModifiers() & (Modifier.PUBLIC | Modifier.FINAL), Modifier.PUBLIC | Modifier.FINAL);
+        due.same("package", c.getPackageName(), "");
+        due.is("public constructors", c.getConstructors().length, 1);
+        due.is("its parameters", c.getConstructors()[0].getParameterCount(), 0);
+        Set<String> face = new TreeSet<>();
+        Set<String> hidden = new TreeSet<>();
+        for (Method method : c.getDeclaredMethods()) {
+            if (Modifier.isPrivate(method.getModifiers())) {
+                hidden.add(method.getName());
+                continue;
+            }
+            due.is("public: " + method, Modifier.isPublic(method.getModifiers()) ? 1 : 0, 1);
+            StringBuilder told = new StringBuilder(method.getName()).append(' ');
+            for (Class<?> type : method.getParameterTypes()) {
+                told.append(type.descriptorString());
+            }
+            face.add(told.toString());
+            boolean isLong = method.getName().equals("write");
+            due.same("answer of " + method.getName(), method.getReturnType().getName(), isLong ? "long" : "int");
+            due.is("static: " + method, Modifier.isStatic(method.getModifiers()) ? 1 : 0, 0);
+        }
+        due.same("face", face.toString(), new TreeSet<>(Set.of(FACE.split("\\|"))).toString());
+        for (String told : face) {
+            String name = told.substring(0, told.indexOf(' '));
+            due.is("a private method bears the name " + name, hidden.contains(name) ? 1 : 0, 0);
+        }
+    }
+
+    private static void members() {
+        Class<?> c = PocketBorders.class;
+        for (Constructor<?> constructor : c.getDeclaredConstructors()) {
+            due.is("public: " + constructor, Modifier.isPublic(constructor.getModifiers()) ? 1 : 0, 1);
+        }
+        for (Field field : c.getDeclaredFields()) {
+            due.is("private: " + field, Modifier.isPrivate(field.getModifiers()) ? 1 : 0, 1);
+            boolean isFinal = Modifier.isFinal(field.getModifiers());
+            due.is("static and not final: " + field, Modifier.isStatic(field.getModifiers()) && !isFinal ? 1 : 0, 0);
+        }
+        due.is("at most 12 classes inside", c.getDeclaredClasses().length <= 12 ? 1 : 0, 1);
+        for (Class<?> inside : c.getDeclaredClasses()) {
+            due.is("static: " + inside, Modifier.isStatic(inside.getModifiers()) ? 1 : 0, 1);
+            for (Method method : inside.getDeclaredMethods()) {
+                due.is("at most 7 parameters: " + method, method.getParameterCount() <= 7 ? 1 : 0, 1);
+            }
+        }
+    }
+
+    private static void source(String source) {
+        String code = source.replaceAll("(?s)/\\*.*?\\*/", " ").replaceAll("//[^\n]*", " ");
+        for (String word : FORBIDDEN) {
+            String exact = word.matches("[-:].*") ? word : "\\b" + word + "\\b";
+            Matcher m = Pattern.compile(exact).matcher(code);
+            due.is("'" + word + "' in the source", m.find() ? 1 : 0, 0);
+        }
+        Matcher imports = Pattern.compile("import ([^;]*);").matcher(code);
+        while (imports.find()) {
+            due.same("import", imports.group(1), "java.util.Arrays");
+        }
+        due.is("signs above 127", source.chars().filter(sign -> sign > 127).count(), 0);
+    }
+}
