@@ -684,7 +684,6 @@ public final class PocketBorders {
     }
 
     private static class HiderWays extends PersonWays {
-        @Override
         int shows(int pocket, int age, int[] worths) {
             int shown = super.shows(pocket, age, worths);
             return shown & ~setOf(bestIn(shown, worths));
@@ -692,31 +691,26 @@ public final class PocketBorders {
     }
 
     private static class SeriousWays extends PersonWays {
-        @Override
         int taken(int shown, int[] worths) {
             return worstIn(shown, worths);
         }
 
-        @Override
         int finds(int age) {
             return age % 2 != 0 ? NOTHING : super.finds(age);
         }
     }
 
     private static final class AuntWays extends PersonWays {
-        @Override
         int taken(int shown, int[] worths) {
             return greatestIn(shown);
         }
 
-        @Override
         int finds(int age) {
             return (super.finds(age) + 1) % THINGS;
         }
     }
 
     private static final class SwallowerWays extends HiderWays {
-        @Override
         int shows(int pocket, int age, int[] worths) {
             int shown = super.shows(pocket, age, worths);
             return shown & ~setOf(bestIn(shown, worths));
@@ -724,19 +718,16 @@ public final class PocketBorders {
     }
 
     private static final class UncleWays extends SeriousWays {
-        @Override
         int shows(int pocket, int age, int[] worths) {
             return age < UNCLE_SHOWS_FROM ? 0 : super.shows(pocket, age, worths);
         }
 
-        @Override
         int taken(int shown, int[] worths) {
             int first = super.taken(shown, worths);
             int rest = shown & ~setOf(first);
             return rest == 0 ? first : worstIn(rest, worths);
         }
 
-        @Override
         int finds(int age) {
             return NOTHING;
         }
@@ -778,7 +769,6 @@ public final class PocketBorders {
         int addPerson(int kind) {
             int p = people;
             kinds[p] = kind;
-            // The row may hold one that an undo took away.
             ages[p] = 0;
             pockets[p] = 0;
             cousins[p] = NOBODY;

@@ -16,6 +16,7 @@ public final class PeopleTest {
         ofOne();
         showsAndTaken();
         bestAndWorstOfEqualWorth();
+        thingZero();
         finds();
         set();
         turn();
@@ -182,6 +183,25 @@ public final class PeopleTest {
         }
     }
 
+    private static void thingZero() {
+        PocketBorders x = new PocketBorders();
+        Due.one(x, PERSON, 49, Due.set(0, 1));
+        x.worth(0, 50);
+        due.is("6: of(0, 8), with thing 0", x.of(0, 8), 51);
+        int[] taken = {0, 1, 1, 1, -1, 0};
+        for (int kind = 0; kind < 6; kind++) {
+            x.turn(0, kind);
+            due.is("6: of(0, 6) of kind " + kind + ", 0 of most worth", x.of(0, 6), taken[kind]);
+        }
+        x.turn(0, AUNT);
+        x.set(0, 2, Due.set(0));
+        due.is("6: of(0, 6), an aunt with 0 alone", x.of(0, 6), 0);
+        due.is("12: border(0), with 0 alone", x.border(0), 0);
+        due.is("12: of(0, 2)", x.of(0, 2), 0);
+        due.is("12: of(0, 4)", x.of(0, 4), 1);
+        due.is("12: now(1)", x.now(1), Due.set(0));
+    }
+
     private static void finds() {
         PocketBorders x = new PocketBorders();
         for (int kind = 0; kind < 6; kind++) {
@@ -218,7 +238,8 @@ public final class PeopleTest {
         due.is("7: set(0, 3, -2)", x.set(0, 3, -2), Due.BEYOND);
         due.is("7: set(0, 3, 2)", x.set(0, 3, 2), Due.BEYOND);
         due.is("7: set(0, 4, 999)", x.set(0, 4, 999), 0);
-        due.is("7: set(0, 4, 5)", x.set(0, 4, 5), 999);
+        due.is("7: set(0, 4, 0)", x.set(0, 4, 0), 999);
+        due.is("7: set(0, 4, 5)", x.set(0, 4, 5), 0);
         due.is("7: set(0, 4, -1)", x.set(0, 4, -1), Due.BEYOND);
         due.is("7: set(0, 4, 1000)", x.set(0, 4, 1000), Due.BEYOND);
         due.is("7: set(0, 0, 1)", x.set(0, 0, 1), Due.BEYOND);

@@ -76,6 +76,8 @@ public final class TextTest {
         due.is("27: now(1)", x.now(1), Due.set(15));
         due.is("27: many blanks", Due.family(x, "  worth   3  0  ;   burned  0   "), 2);
         due.is("27: worthOf(3)", x.worthOf(3), 0);
+        due.is("27: worth 15 15", Due.family(x, "worth 15 15;worth 15 1"), 2);
+        due.is("27: worthOf(15)", x.worthOf(15), 1);
         due.is("27: now(1), two", x.now(1), Due.set(0, 15));
         due.is("27: 00000000000000000000007", Due.family(x, "burned 00000000000000000000007"), 1);
         due.is("27: now(1), three", x.now(1), Due.set(0, 7, 15));
@@ -180,6 +182,10 @@ public final class TextTest {
         fault("person \u00e9", 7);
         fault("person \0", 7);
         fault("personage 7", 0);
+        fault("personz", 0);
+        fault("persona", 0);
+        fault("zerson", 0);
+        fault("person has 0 9 age", 15);
         fault("person age 999", 11);
         fault("person age 1000", 11);
         fault("person age 4294967297", 11);
