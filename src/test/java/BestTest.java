@@ -10,6 +10,12 @@ public final class BestTest {
         richest();
         fewest();
         fewestEdges();
+        cousinOfEight();
+        kindOfSeveral();
+        keepEdges();
+        bestEdges();
+        richestOfEight();
+        fewestOfTwo();
         due.end();
     }
 
@@ -190,5 +196,160 @@ public final class BestTest {
         due.is("24: fewest(0, 0, 1), no others", x.fewest(0, 0, 1), 0);
         x.set(0, 1, 70);
         due.is("24: fewest(0, 0, 20), of 70", x.fewest(0, 0, 20), 0);
+    }
+
+    /** 7 gives 5 to 0 if it gets 8 to hide; and 0 finds 8 again in the next year. */
+    private static void cousinOfEight() {
+        PocketBorders x = new PocketBorders();
+        Due.one(x, 0, 6, Due.set(8));
+        for (int p = 1; p < 7; p++) {
+            Due.one(x, 0, 70, 0);
+        }
+        Due.one(x, 1, 6, Due.set(5));
+        x.set(7, 3, 0);
+        String before = Due.seen(x);
+        due.is("19: cousin(0, 1), itself", x.cousin(0, 1), 1);
+        due.is("19: cousin(0, 2), the last of eight", x.cousin(0, 2), 8);
+        due.is("19: cousin(1, 80), of 70, nobody", x.cousin(1, 80), 0);
+        due.is("19: cousin(0, 80)", x.cousin(0, 80) >= 0 ? 1 : 0, 1);
+        due.same("19: nothing changes", Due.seen(x), before);
+        x.set(0, 3, 3);
+        due.is("19: cousin(0, 2), whoever it is now", x.cousin(0, 2), 8);
+        due.is("19: of(0, 3)", x.of(0, 3), 3);
+        x.set(7, 1, 70);
+        due.is("19: cousin(0, 2), nobody gives", x.cousin(0, 2), 0);
+        x.set(0, 2, 0);
+        due.is("19: cousin(0, 1), 3 is worth something", x.cousin(0, 1), 1);
+        x.worth(3, 0);
+        due.is("19: cousin(0, 1), 3 is worth nothing", x.cousin(0, 1), 0);
+    }
+
+    private static void kindOfSeveral() {
+        PocketBorders x = new PocketBorders();
+        Due.one(x, 0, 48, Due.set(1, 9, 10));
+        x.worth(1, 50);
+        x.worth(9, 20);
+        x.worth(10, 20);
+        x.worth(6, 0);
+        // person 20 20 5, hider 50 20 5, serious 50 20, aunt 50 20 0, swallower 50 20 5, uncle 50 20.
+        due.is("20: kind(0, 1), the lesser of two", x.kind(0, 1), 1);
+        x.worth(6, 5);
+        due.is("20: kind(0, 1), the least of three", x.kind(0, 1), 1);
+        x.worth(6, 6);
+        due.is("20: kind(0, 1), the aunt", x.kind(0, 1), 3);
+        x.worth(9, 19);
+        due.is("20: kind(0, 1), aunt 50 19 6, swallower 50 20 5", x.kind(0, 1), 3);
+        x.worth(6, 5);
+        due.is("20: kind(0, 1), aunt 50 19 5, swallower 50 20 5", x.kind(0, 1), 4);
+        due.is("20: of(0, 0)", x.of(0, 0), 0);
+        x.set(0, 1, 70);
+        for (int kind = 0; kind < 6; kind++) {
+            x.turn(0, kind);
+            due.is("20: kind(0, 80), of 70, as " + kind, x.kind(0, 80), 0);
+        }
+    }
+
+    private static void keepEdges() {
+        PocketBorders x = new PocketBorders();
+        Due.one(x, 0, 6, Due.set(4, 9));
+        due.is("21: keep(0, 4, 1), a person, 9 goes", x.keep(0, 4, 1), 0);
+        due.is("21: keep(0, 9, 1), a person, 4 goes", x.keep(0, 9, 1), 0);
+        due.is("21: keep(0, 8, 2), found behind the border", x.keep(0, 8, 2), 0);
+        due.is("21: keep(0, 8, 1), not found yet", x.keep(0, 8, 1), Due.NONE);
+        x.worth(4, 0);
+        x.worth(9, 0);
+        due.is("21: keep(0, 9, 1), 3 goes as it is", x.keep(0, 9, 1), 0);
+        due.is("21: keep(0, 3, 1), found and gone with any worth", x.keep(0, 3, 1), Due.NONE);
+        due.is("21: worthOf(3)", x.worthOf(3), 3);
+
+        // A hider's best stays; 0 is the best if it is of as much worth as 11, and 2 if it is of more than 1.
+        PocketBorders y = new PocketBorders();
+        Due.one(y, 1, 6, Due.set(0, 11));
+        y.worth(3, 0);
+        y.worth(11, 98);
+        due.is("21: keep(0, 0, 1), as much as 98", y.keep(0, 0, 1), 98);
+        y.worth(11, 99);
+        due.is("21: keep(0, 0, 1), as much as 99", y.keep(0, 0, 1), 99);
+        y.worth(11, 1);
+        due.is("21: keep(0, 0, 1), as much as 1", y.keep(0, 0, 1), 1);
+        y.worth(11, 0);
+        due.is("21: keep(0, 0, 1), as much as 0", y.keep(0, 0, 1), 0);
+        y.set(0, 2, Due.set(1, 2));
+        y.worth(1, 98);
+        due.is("21: keep(0, 2, 1), more than 98", y.keep(0, 2, 1), 99);
+        y.worth(1, 99);
+        due.is("21: keep(0, 2, 1), more than 99", y.keep(0, 2, 1), Due.NONE);
+        due.is("21: worthOf(2)", y.worthOf(2), 2);
+    }
+
+    private static void bestEdges() {
+        PocketBorders x = new PocketBorders();
+        Due.one(x, 0, 70, 0);
+        due.is("22: best(0, 1), nothing there", x.best(0, 1), 15);
+        for (int thing = 0; thing < 16; thing++) {
+            x.worth(thing, 0);
+        }
+        due.is("22: best(0, 1), all of no worth", x.best(0, 1), 0);
+        x.set(0, 2, Due.set(0, 1));
+        due.is("22: best(0, 80), the first it hasn't got", x.best(0, 80), 2);
+        x.set(0, 2, 32767);
+        due.is("22: best(0, 80), 15 is left", x.best(0, 80), 15);
+        x.set(0, 2, 65534);
+        due.is("22: best(0, 80), 0 is left", x.best(0, 80), 0);
+        due.is("22: of(0, 2)", x.of(0, 2), 65534);
+        x.set(0, 2, 65535);
+        due.is("22: best(0, 1), none is left", x.best(0, 1), Due.NONE);
+        x.set(0, 1, 6);
+        due.is("22: best(0, 80), none is left, though one will go", x.best(0, 80), Due.NONE);
+    }
+
+    private static void richestOfEight() {
+        PocketBorders x = new PocketBorders();
+        for (int p = 0; p < 8; p++) {
+            Due.one(x, 0, 70, 0);
+            due.is("23: richest(0), none has anything", x.richest(0), 0);
+        }
+        x.set(7, 2, Due.set(1));
+        due.is("23: richest(0), the last", x.richest(0), 7);
+        due.is("23: richest(80), the last", x.richest(80), 7);
+        for (int p = 6; p >= 0; p--) {
+            x.set(p, 2, Due.set(1));
+            due.is("23: richest(0), the least of several", x.richest(0), p);
+        }
+        x.set(3, 2, Due.set(1, 2));
+        due.is("23: richest(80)", x.richest(80), 3);
+        x.set(5, 2, Due.set(15));
+        x.worth(15, 0);
+        x.worth(1, 0);
+        x.worth(2, 0);
+        due.is("23: richest(0), things of no worth", x.richest(0), 0);
+    }
+
+    private static void fewestOfTwo() {
+        // A swallower hides two, and has borders at 7 and 14: 10, the fourth best, stays if two of the three go.
+        PocketBorders x = new PocketBorders();
+        for (int thing = 0; thing < 16; thing++) {
+            x.worth(thing, 0);
+        }
+        x.worth(4, 20);
+        x.worth(5, 30);
+        x.worth(9, 40);
+        x.worth(10, 10);
+        Due.one(x, 4, 6, Due.set(4, 5, 9, 10));
+        String before = Due.seen(x);
+        due.is("24: fewest(0, 10, 8), two, the least of three sets", x.fewest(0, 10, 8), Due.set(4, 5));
+        due.is("24: fewest(0, 10, 1), one border alone", x.fewest(0, 10, 1), 0);
+        due.is("24: fewest(0, 10, 7), one border alone", x.fewest(0, 10, 7), 0);
+        due.is("24: fewest(0, 4, 1), one, the lesser", x.fewest(0, 4, 1), Due.set(5));
+        due.is("24: fewest(0, 5, 8)", x.fewest(0, 5, 8), 0);
+        due.same("24: nothing changes", Due.seen(x), before);
+
+        // An uncle loses the second worst at 49, 56 and 63.
+        PocketBorders y = new PocketBorders();
+        Due.one(y, 5, 43, Due.set(0, 1, 6, 8, 9, 10, 15));
+        due.is("24: fewest(0, 8, 20), three", y.fewest(0, 8, 20), Due.set(0, 1, 6));
+        due.is("24: fewest(0, 8, 13), borders at 49 and 56", y.fewest(0, 8, 13), 0);
+        due.is("24: fewest(0, 6, 13), borders at 49 and 56", y.fewest(0, 6, 13), Due.set(0, 1));
+        due.is("24: fewest(0, 0, 20), the worst", y.fewest(0, 0, 20), 0);
     }
 }

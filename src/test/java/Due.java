@@ -49,9 +49,16 @@ final class Due {
         return p;
     }
 
+    /** Four bytes a call, as an object is used for 512 calls alone. */
     static void feedText(PocketBorders x, String text) {
-        for (byte b : text.getBytes(StandardCharsets.ISO_8859_1)) {
-            x.feed(b, 1);
+        byte[] bytes = text.getBytes(StandardCharsets.ISO_8859_1);
+        for (int i = 0; i < bytes.length; i += 4) {
+            int n = Math.min(4, bytes.length - i);
+            int number = 0;
+            for (int k = 0; k < n; k++) {
+                number = number << 8 | bytes[i + k] & 255;
+            }
+            x.feed(number, n);
         }
     }
 
@@ -60,7 +67,7 @@ final class Due {
         return x.family();
     }
 
-    /** All that can be seen of an object but status(), in some 120 calls. */
+    /** All that section 1 tells and how long the tape is, in 99 calls at the most. */
     static String seen(PocketBorders x) {
         StringBuilder all = new StringBuilder();
         for (int thing = 0; thing < 16; thing++) {
@@ -72,7 +79,8 @@ final class Due {
         for (int what = 0; what < 4; what++) {
             all.append(what == 0 ? " | count " : " ").append(x.count(what));
         }
-        for (int p = 0; p < x.count(0); p++) {
+        int people = x.count(0);
+        for (int p = 0; p < people; p++) {
             for (int what = 0; what < 9; what++) {
                 all.append(what == 0 ? " | of " : " ").append(x.of(p, what));
             }

@@ -24,6 +24,10 @@ public final class PeopleTest {
         give();
         hand();
         border();
+        eachThingByItself();
+        allPlacesTaken();
+        turnKeepsTheRest();
+        fullPockets();
         due.end();
     }
 
@@ -346,5 +350,83 @@ public final class PeopleTest {
         due.is("12: now(0)", x.now(0), 0);
         due.is("12: border(-1)", x.border(-1), Due.BEYOND);
         due.is("12: border(2)", x.border(2), Due.BEYOND);
+    }
+
+    private static void eachThingByItself() {
+        PocketBorders x = new PocketBorders();
+        for (int thing = 0; thing < 16; thing++) {
+            due.is("2: worth(" + thing + ", 99)", x.worth(thing, 99), thing);
+            for (int other = 0; other < 16; other++) {
+                due.is("3: worthOf(" + other + ")", x.worthOf(other), other > thing ? other : 99);
+            }
+        }
+        due.is("2: worth(15, 99), the same", x.worth(15, 99), 99);
+        due.is("2: worth(15, 0)", x.worth(15, 0), 99);
+        due.is("2: worth(15, 15)", x.worth(15, 15), 0);
+    }
+
+    private static void allPlacesTaken() {
+        PocketBorders x = new PocketBorders();
+        for (int p = 0; p < 8; p++) {
+            due.is("7: set(0, 3, " + p + "), not there yet", x.set(0, 3, p), Due.BEYOND);
+            due.is("5: person(5)", x.person(UNCLE), p);
+            due.is("7: set(" + p + ", 3, itself)", x.set(p, 3, p), -1);
+            due.is("7: set(0, 3, " + p + ")", x.set(0, 3, p), p == 0 ? 0 : p - 1);
+            due.is("7: set(0, 3, " + (p + 1) + "), not there", x.set(0, 3, p + 1), Due.BEYOND);
+        }
+        due.is("5: person(5), a 9th", x.person(UNCLE), Due.FULL);
+        due.is("7: set(0, 3, 8), not there", x.set(0, 3, 8), Due.BEYOND);
+        due.is("7: set(7, 3, -1)", x.set(7, 3, -1), 7);
+        due.is("4: who(9), nobody", x.who(9), 0);
+        for (int p = 0; p < 8; p++) {
+            due.is("10: give(" + p + ", 9)", x.give(p, 9), 1);
+            due.is("4: who(9)", x.who(9), (1 << p + 1) - 1);
+        }
+        due.is("11: hand(0, 7, 9), who has it", x.hand(0, 7, 9), 1);
+        due.is("4: who(9), 0 no more", x.who(9), 254);
+        due.is("4: who(8)", x.who(8), 0);
+        due.is("4: who(10)", x.who(10), 0);
+    }
+
+    private static void turnKeepsTheRest() {
+        PocketBorders x = new PocketBorders();
+        Due.one(x, PERSON, 70, 65535);
+        x.set(0, 3, 0);
+        x.set(0, 4, 999);
+        for (int kind = 5; kind >= 0; kind--) {
+            due.is("8: turn(0, " + kind + ")", x.turn(0, kind), kind == 5 ? PERSON : kind + 1);
+            int[] one = {kind, 70, 65535, 0, 999};
+            for (int what = 0; what < 5; what++) {
+                due.is("8: of(0, " + what + ") as " + kind, x.of(0, what), one[what]);
+            }
+            due.is("9: as(0, 0), of 70", x.as(0, 0), 70);
+        }
+    }
+
+    private static void fullPockets() {
+        PocketBorders x = new PocketBorders();
+        Due.one(x, PERSON, 0, 0);
+        Due.one(x, PERSON, 0, 65535);
+        due.is("6: of(0, 8), nothing", x.of(0, 8), 0);
+        due.is("6: of(1, 8), all", x.of(1, 8), 120);
+        for (int thing = 0; thing < 16; thing++) {
+            x.worth(thing, 99);
+            due.is("10: give(1, " + thing + "), all there", x.give(1, thing), 0);
+        }
+        due.is("6: of(1, 2)", x.of(1, 2), 65535);
+        due.is("6: of(1, 8), all of 99", x.of(1, 8), 1584);
+        for (int thing = 0; thing < 16; thing++) {
+            due.is("11: hand(0, 1, " + thing + "), nothing there", x.hand(0, 1, thing), Due.STATE);
+            due.is("11: hand(1, 0, " + thing + ")", x.hand(1, 0, thing), 1);
+            due.is("11: of(1, 2)", x.of(1, 2), 65536 - (2 << thing));
+            due.is("11: of(0, 2)", x.of(0, 2), (2 << thing) - 1);
+        }
+        due.is("6: of(1, 8), none left", x.of(1, 8), 0);
+        for (int thing = 0; thing < 16; thing++) {
+            due.is("10: give(1, " + thing + ")", x.give(1, thing), 1);
+        }
+        due.is("11: hand(0, 1, 15), to one who has all", x.hand(0, 1, 15), 1);
+        due.is("11: of(1, 2), all", x.of(1, 2), 65535);
+        due.is("11: of(0, 2), 15 less", x.of(0, 2), 32767);
     }
 }

@@ -11,6 +11,16 @@ public final class SheetsTest {
         lays();
         book();
         read();
+        howManyNumbers();
+        allZeroAnew();
+        eachSheetByItself();
+        lowestBits();
+        copyEdges();
+        copyOverItself();
+        copyOfEachKind();
+        laysEdges();
+        bookEdges();
+        readEdges();
         due.end();
     }
 
@@ -69,7 +79,8 @@ public final class SheetsTest {
     }
 
     private static void bits() {
-        long[] given = {127, 128, 255, 256, -1, -128, -129, 32767, 32768, 65535, 65536, 0x123456789abcdefL, Long.MIN_VALUE};
+        long[] given = {127, 128, 255, 256, -1, -128, -129, 32767, 32768, 65535, 65536, 0x123456789abcdefL,
+            Long.MIN_VALUE};
         PocketBorders x = new PocketBorders();
         x.sheet(0, 8, 1);
         x.sheet(1, 16, 1);
@@ -223,5 +234,266 @@ public final class SheetsTest {
         due.same("33: nothing changes", Due.seen(x), before);
         x.write(2, 0, (1L << 32) + 1);
         due.is("33: read(2, 0), a number far above", x.read(2, 0), 0);
+    }
+
+    private static final int[] BITS = {8, 16, 64};
+
+    private static void howManyNumbers() {
+        for (int s = 0; s < 4; s++) {
+            for (int bits : BITS) {
+                for (int n : new int[] {0, 1, 2, 39, 40}) {
+                    PocketBorders x = new PocketBorders();
+                    String told = "(" + s + ", " + bits + ", " + n + ")";
+                    due.is("28: sheet" + told, x.sheet(s, bits, n), n);
+                    for (int i = 0; i < n; i++) {
+                        due.is("29: number " + i + " of sheet" + told, x.write(s, i, 1 + i), 0);
+                    }
+                    for (int i = 0; i < n; i++) {
+                        due.is("29: number " + i + " then", x.write(s, i, 0), 1 + i);
+                    }
+                    due.is("29: behind the last of sheet" + told, x.write(s, n, 1), Due.BEYOND);
+                    due.is("29: ahead of the first of sheet" + told, x.write(s, -1, 1), Due.BEYOND);
+                    due.is("28: sheet(.., 0, " + n + ")", x.sheet(s, 0, n), 0);
+                    due.is("29: write, missing", x.write(s, 0, 1), Due.MISSING);
+                }
+            }
+        }
+    }
+
+    private static void allZeroAnew() {
+        for (int bits : BITS) {
+            for (int again : new int[] {0, 8, 16, 64}) {
+                PocketBorders x = new PocketBorders();
+                x.sheet(1, bits, 40);
+                for (int i = 0; i < 40; i++) {
+                    x.write(1, i, 100 - i);
+                }
+                due.is("28: sheet(1, " + again + ", 5)", x.sheet(1, again, 5), again == 0 ? 0 : 5);
+                due.is("28: sheet(1, " + bits + ", 40)", x.sheet(1, bits, 40), 40);
+                for (int i = 0; i < 40; i++) {
+                    due.is("28: number " + i + ", all 0", x.write(1, i, 0), 0);
+                }
+            }
+        }
+    }
+
+    private static void eachSheetByItself() {
+        PocketBorders x = new PocketBorders();
+        for (int s = 0; s < 4; s++) {
+            due.is("28: sheet(" + s + ", 8, 40)", x.sheet(s, 8, 40), 40);
+            x.write(s, 0, 50 + s);
+            x.write(s, 39, 60 + s);
+            for (int t = s + 1; t < 4; t++) {
+                due.is("28: lays(" + t + "), missing", x.lays(t), Due.MISSING);
+            }
+        }
+        x.sheet(2, 0, 0);
+        x.sheet(1, 64, 1);
+        due.is("28: number 0 of 0", x.write(0, 0, 0), 50);
+        due.is("28: number 39 of 0", x.write(0, 39, 0), 60);
+        due.is("28: number 0 of 3", x.write(3, 0, 0), 53);
+        due.is("28: number 39 of 3", x.write(3, 39, 0), 63);
+        due.is("28: number 0 of 1", x.write(1, 0, 0), 0);
+        due.is("28: number 1 of 1", x.write(1, 1, 0), Due.BEYOND);
+        due.is("28: number 0 of 2", x.write(2, 0, 0), Due.MISSING);
+    }
+
+    private static void lowestBits() {
+        long[][] of8 = {{127, 127}, {128, -128}, {255, -1}, {256, 0}, {257, 1}, {-128, -128}, {-129, 127}, {-256, 0},
+            {Long.MAX_VALUE, -1}, {Long.MIN_VALUE, 0}};
+        long[][] of16 = {{128, 128}, {32767, 32767}, {32768, -32768}, {65535, -1}, {65536, 0}, {65537, 1},
+            {-32768, -32768}, {-32769, 32767}, {Long.MAX_VALUE, -1}, {Long.MIN_VALUE, 0}};
+        long[][] of64 = {{32768, 32768}, {1L << 32, 1L << 32}, {Long.MAX_VALUE, Long.MAX_VALUE},
+            {Long.MIN_VALUE, Long.MIN_VALUE}, {-1, -1}};
+        long[][][] all = {of8, of16, of64};
+        for (int k = 0; k < 3; k++) {
+            for (long[] row : all[k]) {
+                PocketBorders x = new PocketBorders();
+                x.sheet(0, BITS[k], 3);
+                due.is("29: what it was ahead of " + row[0], x.write(0, 1, row[0]), 0);
+                due.is("29: number 0 beside it", x.write(0, 0, 0), 0);
+                due.is("29: number 2 beside it", x.write(0, 2, 0), 0);
+                due.is("29: " + row[0] + " in " + BITS[k] + " bits", x.write(0, 1, 0), row[1]);
+            }
+        }
+    }
+
+    private static PocketBorders counted(int bits, int n, int m) {
+        PocketBorders x = new PocketBorders();
+        x.sheet(0, bits, n);
+        x.sheet(1, bits, m);
+        for (int i = 0; i < n; i++) {
+            x.write(0, i, 1 + i);
+        }
+        for (int i = 0; i < m; i++) {
+            x.write(1, i, 51 + i);
+        }
+        return x;
+    }
+
+    /** Of 5 numbers and 3: all froms, tos and ns near the edges. */
+    private static void copyEdges() {
+        for (int from = -1; from <= 6; from++) {
+            for (int to = -1; to <= 4; to++) {
+                for (int n = -1; n <= 6; n++) {
+                    PocketBorders x = counted(16, 5, 3);
+                    boolean may = from >= 0 && to >= 0 && n >= 0 && from + n <= 5 && to + n <= 3;
+                    String told = "30: copy(0, " + from + ", 1, " + to + ", " + n + ")";
+                    due.is(told, x.copy(0, from, 1, to, n), may ? n : Due.BEYOND);
+                    for (int i = 0; i < 5; i++) {
+                        due.is(told + ": number " + i + " of 0", x.write(0, i, 0), 1 + i);
+                    }
+                    for (int i = 0; i < 3; i++) {
+                        boolean came = may && i >= to && i < to + n;
+                        due.is(told + ": number " + i + " of 1", x.write(1, i, 0), came ? 1 + from + i - to : 51 + i);
+                    }
+                }
+            }
+        }
+    }
+
+    private static void copyOverItself() {
+        for (int bits : BITS) {
+            for (int[] a : new int[][] {{0, 0, 40}, {0, 1, 39}, {1, 0, 39}, {0, 39, 1}, {39, 0, 1}, {0, 20, 20},
+                {5, 7, 30}, {7, 5, 30}, {40, 0, 0}, {0, 40, 0}, {40, 40, 0}}) {
+                PocketBorders x = counted(bits, 40, 0);
+                String told = "30: copy(0, " + a[0] + ", 0, " + a[1] + ", " + a[2] + ")";
+                due.is(told, x.copy(0, a[0], 0, a[1], a[2]), a[2]);
+                for (int i = 0; i < 40; i++) {
+                    boolean came = i >= a[1] && i < a[1] + a[2];
+                    due.is(told + ": number " + i, x.write(0, i, 0), came ? 1 + a[0] + i - a[1] : 1 + i);
+                }
+            }
+        }
+    }
+
+    private static void copyOfEachKind() {
+        long[] least = {-128, -32768, Long.MIN_VALUE};
+        for (int k = 0; k < 3; k++) {
+            for (int l = 0; l < 3; l++) {
+                PocketBorders x = new PocketBorders();
+                x.sheet(2, BITS[k], 40);
+                x.sheet(3, BITS[l], 40);
+                x.write(2, 0, least[k]);
+                x.write(2, 39, -1 - least[k]);
+                int due40 = k == l ? 40 : Due.KIND;
+                due.is("30: copy of " + BITS[k] + " to " + BITS[l] + " bits", x.copy(2, 0, 3, 0, 40), due40);
+                due.is("30: number 0", x.write(3, 0, 0), k == l ? least[k] : 0);
+                due.is("30: number 39", x.write(3, 39, 0), k == l ? -1 - least[k] : 0);
+                int none = k == l ? 0 : Due.KIND;
+                due.is("30: none of " + BITS[k] + " to " + BITS[l] + " bits", x.copy(2, 0, 3, 0, 0), none);
+            }
+        }
+        PocketBorders x = new PocketBorders();
+        x.sheet(0, 8, 0);
+        x.sheet(1, 8, 0);
+        due.is("30: copy(0, 0, 1, 0, 0), both empty", x.copy(0, 0, 1, 0, 0), 0);
+        due.is("30: copy(0, 0, 1, 0, 1), both empty", x.copy(0, 0, 1, 0, 1), Due.BEYOND);
+        due.is("30: copy(0, 1, 1, 0, 0), both empty", x.copy(0, 1, 1, 0, 0), Due.BEYOND);
+        due.is("30: copy(0, 0, 1, 1, 0), both empty", x.copy(0, 0, 1, 1, 0), Due.BEYOND);
+    }
+
+    private static void laysEdges() {
+        for (int bits : BITS) {
+            for (int n : new int[] {0, 1, 15, 16, 17, 40}) {
+                PocketBorders x = new PocketBorders();
+                x.sheet(0, bits, n);
+                for (int i = 0; i < n; i++) {
+                    x.write(0, i, 99 - i);
+                }
+                due.is("31: lays of " + n, x.lays(0), Math.min(n, 16));
+                for (int thing = 0; thing < 16; thing++) {
+                    due.is("31: worthOf(" + thing + ")", x.worthOf(thing), thing < n ? 99 - thing : thing);
+                }
+                due.is("31: the sheet stays", n == 0 ? 99 : x.write(0, 0, 0), 99);
+            }
+            long[] row = {-1, 0, 99, 100, 127, -128, 1};
+            int[] worths = {0, 0, 99, 3, 4, 5, 1, 7};
+            PocketBorders x = new PocketBorders();
+            x.sheet(0, bits, 7);
+            for (int i = 0; i < 7; i++) {
+                x.write(0, i, row[i]);
+            }
+            due.is("31: lays, three of seven", x.lays(0), 3);
+            for (int thing = 0; thing < 8; thing++) {
+                due.is("31: worthOf(" + thing + "), of seven", x.worthOf(thing), worths[thing]);
+            }
+        }
+        PocketBorders x = new PocketBorders();
+        x.sheet(0, 64, 4);
+        x.write(0, 0, Long.MIN_VALUE);
+        x.write(0, 1, Long.MAX_VALUE);
+        x.write(0, 2, (1L << 32) + 5);
+        x.write(0, 3, (1L << 63) + 5);
+        due.is("31: lays, none of four", x.lays(0), 0);
+        for (int thing = 0; thing < 4; thing++) {
+            due.is("31: worthOf(" + thing + "), as it was", x.worthOf(thing), thing);
+        }
+    }
+
+    private static void bookEdges() {
+        for (int bits : BITS) {
+            for (int n : new int[] {0, 1, 39, 40}) {
+                PocketBorders x = Crowd.of(8);
+                x.sheet(3, bits, n);
+                due.is("32: book(3, 7) of " + n, x.book(3, 7), n);
+                due.is("32: book(3, 0) of " + n, x.book(3, 0), n);
+                for (int i = 0; i < n; i++) {
+                    due.is("32: number " + i, x.write(3, i, 0), Integer.bitCount(x.on(0, i, 0)));
+                }
+                x.sheet(3, 0, 0);
+                due.same("32: nothing else changes", Crowd.whole(x), Crowd.whole(Crowd.of(8)));
+            }
+        }
+        PocketBorders x = new PocketBorders();
+        Due.one(x, 0, 70, 65535);
+        Due.one(x, 0, 70, 0);
+        x.sheet(0, 8, 2);
+        x.book(0, 0);
+        due.is("32: number 0, all things", x.write(0, 0, 5), 16);
+        due.is("32: number 1, all things", x.write(0, 1, 5), 16);
+        x.book(0, 1);
+        due.is("32: number 0, nothing", x.write(0, 0, 5), 0);
+        due.is("32: number 1, nothing", x.write(0, 1, 5), 0);
+    }
+
+    private static void readEdges() {
+        PocketBorders x = new PocketBorders();
+        Due.one(x, 0, 30, Due.set(15));
+        x.sheet(0, 16, 40);
+        for (int i = 0; i < 40; i++) {
+            x.write(0, i, 1);
+        }
+        // With 15, one thing for 39 years: all six of 70; uncles of 0 to 9; at 69 a person (finds 14, loses 15), a
+        // hider and a serious one (find 14, lose it); at 68 a serious one (finds nothing, then 14 that goes).
+        due.is("33: read(0, 0), 40 times 1", x.read(0, 0), 6 + 10 + 3 + 1);
+        x.write(0, 39, 0);
+        // Uncles of 10 lose it at 49 just then.
+        due.is("33: read(0, 0), 39 times 1 and 0", x.read(0, 0), 1);
+        x.write(0, 39, 2);
+        due.is("33: read(0, 0), 39 times 1 and 2", x.read(0, 0), 0);
+        x.write(0, 39, -1);
+        due.is("33: read(0, 0), 39 times 1 and -1", x.read(0, 0), 0);
+        due.is("33: of(0, 0), still", x.of(0, 0), 0);
+        due.is("33: of(0, 1), still", x.of(0, 1), 30);
+        due.is("33: the sheet stays", x.write(0, 38, 7), 1);
+
+        PocketBorders y = new PocketBorders();
+        Due.one(y, 0, 0, 0);
+        y.sheet(0, 8, 1);
+        due.is("33: read(0, 0), nothing there", y.read(0, 0), 6 * 71);
+        y.set(0, 2, 65535);
+        due.is("33: read(0, 0), not 0", y.read(0, 0), 0);
+        y.write(0, 0, 16);
+        due.is("33: read(0, 0), all there", y.read(0, 0), 6 * 71);
+        y.sheet(1, 8, 0);
+        due.is("33: read(1, 0), no numbers", y.read(1, 0), 6 * 71);
+        y.sheet(1, 8, 2);
+        y.write(1, 0, 16);
+        y.write(1, 1, 16);
+        // One goes at 7, 14, .. 70, ten times; from uncles at 49, 56, 63 and 70.
+        due.is("33: read(1, 0), two years of all", y.read(1, 0), 5 * 61 + 67);
+        y.write(1, 1, 15);
+        due.is("33: read(1, 0), one goes", y.read(1, 0), 5 * 10 + 4);
     }
 }

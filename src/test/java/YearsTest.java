@@ -13,6 +13,12 @@ public final class YearsTest {
         gets();
         loses();
         burns();
+        oneByOne();
+        toTheLastYear();
+        allOfThem();
+        onAsYearsGo();
+        theLastBorder();
+        foundAndBackAgain();
         due.end();
     }
 
@@ -213,5 +219,143 @@ public final class YearsTest {
         due.is("18: burns(3), its own cousin", x.burns(3), Due.NONE);
         Due.family(x, "burned 3");
         due.is("18: burns(3), burned now", x.burns(3), 0);
+    }
+
+    private static void oneByOne() {
+        PocketBorders x = Crowd.of(8);
+        PocketBorders y = Crowd.of(8);
+        int lost = 0;
+        for (int i = 0; i < 80; i++) {
+            lost = x.years(1);
+        }
+        due.is("13: years(80) and 80 times years(1)", y.years(80), lost);
+        due.same("13: all as by years(1)", Due.seen(y), Due.seen(x));
+        due.is("14: now(0)", y.now(0), 83);
+    }
+
+    private static void toTheLastYear() {
+        PocketBorders x = new PocketBorders();
+        for (int i = 0; i < 124; i++) {
+            x.years(80);
+        }
+        due.is("13: years(79) in 9920", x.years(79), 0);
+        due.is("14: now(0)", x.now(0), 9999);
+        due.is("13: years(1) in 9999", x.years(1), Due.STATE);
+        due.is("13: years(80) in 9999", x.years(80), Due.STATE);
+        x.person(0);
+        due.is("15: on(0, 80, 1) in 9999, all go ON", x.on(0, 80, 1), 10);
+        due.is("16: gets(0, 5) in 9999", x.gets(0, 5), 1);
+        due.is("23: richest(80) in 9999", x.richest(80), 0);
+        due.is("22: best(0, 80) in 9999", x.best(0, 80) >= 0 ? 1 : 0, 1);
+        due.is("14: now(0) still", x.now(0), 9999);
+        due.is("13: status(4)", x.status(4), 2);
+
+        PocketBorders y = new PocketBorders();
+        for (int i = 0; i < 124; i++) {
+            y.years(80);
+        }
+        y.years(78);
+        due.is("13: years(2) in 9998", y.years(2), Due.STATE);
+        due.is("14: now(0) in 9998", y.now(0), 9998);
+        due.is("13: years(1) in 9998", y.years(1), 0);
+        due.is("14: now(0) in the last", y.now(0), 9999);
+    }
+
+    private static void allOfThem() {
+        PocketBorders x = new PocketBorders();
+        for (int p = 0; p < 8; p++) {
+            Due.one(x, p % 6, 70, 65535);
+            x.set(p, 4, 999);
+            due.is("14: now(2), all of " + p, x.now(2), (2 << p) - 1);
+        }
+        for (int thing = 0; thing < 16; thing++) {
+            x.worth(thing, 99);
+        }
+        due.is("14: now(3), all of 99", x.now(3), 8 * 1584);
+        due.is("14: now(4), all", x.now(4), 65535);
+        due.is("14: now(5), 999 of each", x.now(5), 7992);
+        due.is("13: years(1), held", x.years(1), 7992);
+        for (int p = 0; p < 8; p++) {
+            x.set(p, 1, 69);
+            due.is("14: now(2), " + p + " is of 69", x.now(2), 254 << p & 255);
+        }
+        due.is("13: years(1), all at once, held", x.years(1), 7992);
+        due.is("14: now(2), all again", x.now(2), 255);
+        for (int p = 0; p < 8; p++) {
+            x.set(p, 2, 0);
+        }
+        due.is("14: now(3), none", x.now(3), 0);
+        due.is("14: now(4), none", x.now(4), 0);
+        x.give(7, 15);
+        due.is("14: now(4), 15 of the last one", x.now(4), 32768);
+        due.is("14: now(3), 15 of the last one", x.now(3), 99);
+    }
+
+    private static void onAsYearsGo() {
+        for (int n : new int[] {0, 1, 6, 7, 14, 42, 49, 70, 79, 80}) {
+            PocketBorders x = Crowd.of(8);
+            PocketBorders y = Crowd.of(8);
+            if (n > 0) {
+                y.years(n);
+            }
+            for (int p = 0; p < 8; p++) {
+                due.is("15: on(" + p + ", " + n + ", 0)", x.on(p, n, 0), y.of(p, 2));
+                due.is("15: on(" + p + ", " + n + ", 1)", x.on(p, n, 1), y.of(p, 4));
+            }
+            due.same("15: nothing changes", Crowd.whole(x), Crowd.whole(Crowd.of(8)));
+        }
+        PocketBorders z = new PocketBorders();
+        Due.one(z, 0, 6, Due.set(9));
+        z.set(0, 4, 999);
+        due.is("15: on(0, 1, 1), held", z.on(0, 1, 1), 999);
+        z.set(0, 4, 998);
+        due.is("15: on(0, 1, 1), to 999", z.on(0, 1, 1), 999);
+        due.is("15: on(0, 80, 1), held to 999", z.on(0, 80, 1), 999);
+    }
+
+    /** An uncle's four things go at 49, 56, 63 and 70: the least of them last. */
+    private static void theLastBorder() {
+        PocketBorders x = new PocketBorders();
+        Due.one(x, 5, 0, Due.set(1, 2, 3, 4, 5));
+        Due.one(x, 0, 70, 0);
+        int[] goes = {0, 80, 49, 56, 63, 70};
+        for (int thing = 2; thing <= 5; thing++) {
+            due.is("17: loses(0, " + thing + ")", x.loses(0, thing), goes[thing]);
+            due.is("18: burns(" + thing + ")", x.burns(thing), goes[thing]);
+        }
+        due.is("17: loses(0, 1), never", x.loses(0, 1), Due.NONE);
+        due.is("17: loses(0, 0), now", x.loses(0, 0), 0);
+        due.is("18: burns(1), never", x.burns(1), Due.NONE);
+        due.is("16: gets(1, 5), never", x.gets(1, 5), Due.NONE);
+        x.set(0, 3, 1);
+        due.is("18: burns(5), given to 1", x.burns(5), Due.NONE);
+        for (int thing = 2; thing <= 5; thing++) {
+            due.is("16: gets(1, " + thing + ")", x.gets(1, thing), goes[thing]);
+        }
+        due.is("16: gets(1, 1), never", x.gets(1, 1), Due.NONE);
+        due.is("16: gets(0, 1), now", x.gets(0, 1), 0);
+        x.set(0, 1, 69);
+        due.is("16: gets(1, 2), at once", x.gets(1, 2), 1);
+        due.is("17: loses(0, 2), at once", x.loses(0, 2), 1);
+        x.set(0, 3, -1);
+        due.is("18: burns(2), at once", x.burns(2), 1);
+        x.years(1);
+        due.is("18: burns(2), burned now", x.burns(2), 0);
+        due.is("18: burns(3), not behind 70", x.burns(3), Due.NONE);
+    }
+
+    private static void foundAndBackAgain() {
+        // At 7 the person finds 3 and loses 9, at 21 it finds 9 again: what comes first counts.
+        PocketBorders x = new PocketBorders();
+        Due.one(x, 0, 6, Due.set(9));
+        due.is("16: gets(0, 9), though it will go", x.gets(0, 9), 0);
+        due.is("17: loses(0, 9), though it comes again", x.loses(0, 9), 1);
+        due.is("15: on(0, 1, 0)", x.on(0, 1, 0), Due.set(3));
+        due.is("15: on(0, 15, 0) has 9", x.on(0, 15, 0) & Due.set(9), Due.set(9));
+        due.is("18: burns(9)", x.burns(9), 1);
+        x.years(1);
+        due.is("16: gets(0, 9), again", x.gets(0, 9), 14);
+        due.is("17: loses(0, 9), gone", x.loses(0, 9), 0);
+        due.is("18: burns(9), burned", x.burns(9), 0);
     }
 }
