@@ -16,6 +16,8 @@ public final class BestTest {
         bestEdges();
         richestOfEight();
         fewestOfTwo();
+        fewestAheadOfLeast();
+        takenOutIsGivenToNobody();
         due.end();
     }
 
@@ -301,6 +303,16 @@ public final class BestTest {
         due.is("22: best(0, 1), none is left", x.best(0, 1), Due.NONE);
         x.set(0, 1, 6);
         due.is("22: best(0, 80), none is left, though one will go", x.best(0, 80), Due.NONE);
+
+        // It comes to what is there: with 9, and 3 at 7, 8 stays but 9 goes, and of 10 to 15 each goes by itself.
+        PocketBorders y = new PocketBorders();
+        Due.one(y, 0, 6, Due.set(9));
+        due.is("22: best(0, 1), goes itself, so that 9 stays", y.best(0, 1), 10);
+        y.worth(8, 9);
+        due.is("22: best(0, 1), as good as 9, and goes first", y.best(0, 1), 8);
+        y.turn(0, 1);
+        // A hider with 15 hides it and loses 9: 15 and 3 are left.
+        due.is("22: best(0, 1), a hider", y.best(0, 1), 15);
     }
 
     private static void richestOfEight() {
@@ -351,5 +363,39 @@ public final class BestTest {
         due.is("24: fewest(0, 8, 13), borders at 49 and 56", y.fewest(0, 8, 13), 0);
         due.is("24: fewest(0, 6, 13), borders at 49 and 56", y.fewest(0, 6, 13), Due.set(0, 1));
         due.is("24: fewest(0, 0, 20), the worst", y.fewest(0, 0, 20), 0);
+    }
+
+    /**
+     * A swallower of 19 has borders at 21 and 28, and finds 14 at 22 and 8 at 24. Without 14, 8 goes and comes again,
+     * and 10 goes behind it; without 10 and 11, a set of a lesser number, 8 is hidden both times.
+     */
+    private static void fewestAheadOfLeast() {
+        PocketBorders x = new PocketBorders();
+        for (int thing : new int[] {4, 9, 12, 13}) {
+            x.worth(thing, 0);
+        }
+        Due.one(x, 4, 19, Due.set(8, 10, 11, 14));
+        due.is("24: fewest(0, 8, 9), one of a greater number", x.fewest(0, 8, 9), Due.set(14));
+        x.set(0, 2, Due.set(8, 14));
+        due.is("15: on(0, 9, 0) without 10 and 11", x.on(0, 9, 0) & Due.set(8), Due.set(8));
+        x.set(0, 2, Due.set(8, 10, 11));
+        due.is("15: on(0, 9, 0) without 14", x.on(0, 9, 0) & Due.set(8), Due.set(8));
+        x.set(0, 2, Due.set(8, 10, 14));
+        due.is("15: on(0, 9, 0) without 11", x.on(0, 9, 0) & Due.set(8), 0);
+        x.set(0, 2, Due.set(8, 11, 14));
+        due.is("15: on(0, 9, 0) without 10", x.on(0, 9, 0) & Due.set(8), 0);
+    }
+
+    /** If 9 came to 1, who is the cousin, 1 would hide it and give 8, which 0 would hide instead of 6. */
+    private static void takenOutIsGivenToNobody() {
+        PocketBorders x = new PocketBorders();
+        x.worth(13, 0);
+        Due.one(x, 1, 40, Due.set(6, 9));
+        Due.one(x, 4, 41, Due.set(8, 10, 13));
+        x.set(0, 3, 1);
+        x.set(1, 3, 0);
+        due.is("24: fewest(0, 6, 2), 9 is taken out", x.fewest(0, 6, 2), Due.set(9));
+        x.hand(0, 1, 9);
+        due.is("24: fewest(0, 6, 2), 9 is given to 1", x.fewest(0, 6, 2), Due.NONE);
     }
 }

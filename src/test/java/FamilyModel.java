@@ -159,6 +159,10 @@ final class FamilyModel {
             return sum;
         }
 
+        boolean has(int p, int thing) {
+            return people.get(p).pocket.contains(thing);
+        }
+
         int lost() {
             return people.stream().mapToInt(o -> o.lost).sum();
         }
@@ -198,11 +202,11 @@ final class FamilyModel {
             case "give": ask(one(i[0]) && thing(i[1]), 0); return at(i[0]).pocket.add(i[1]) ? 1 : 0;
             case "hand": return hand(i[0], i[1], i[2]);
             case "border": ask(one(i[0]), 0); return world.border(at(i[0]));
-            case "years": ask(within(i[0], 1, 80), 0); ask(world.year + i[0] <= 9999, 4); return world.years(i[0]).lost();
+            case "years": return years(i[0]);
             case "now": return now(i[0]);
             case "on": return on(i[0], i[1], i[2]);
-            case "gets": ask(one(i[0]) && thing(i[1]), 0); return first(w -> w.people.get(i[0]).pocket.contains(i[1]));
-            case "loses": ask(one(i[0]) && thing(i[1]), 0); return first(w -> !w.people.get(i[0]).pocket.contains(i[1]));
+            case "gets": ask(one(i[0]) && thing(i[1]), 0); return first(w -> w.has(i[0], i[1]));
+            case "loses": ask(one(i[0]) && thing(i[1]), 0); return first(w -> !w.has(i[0], i[1]));
             case "burns": ask(thing(i[0]), 0); return first(w -> w.burned.contains(i[0]));
             case "cousin": return cousin(i[0], i[1]);
             case "kind": return kind(i[0], i[1]);
@@ -339,6 +343,12 @@ final class FamilyModel {
         ask(at(p).pocket.remove(t), 4);
         at(q).pocket.add(t);
         return 1;
+    }
+
+    private int years(int n) {
+        ask(within(n, 1, 80), 0);
+        ask(world.year + n <= 9999, 4);
+        return world.years(n).lost();
     }
 
     private int now(int what) {

@@ -81,7 +81,8 @@ public final class ModelTest {
         String text = random.nextBoolean() ? goodText() : anyText();
         if (random.nextInt(4) == 0 && !text.isEmpty()) {
             int at = random.nextInt(text.length());
-            text = text.substring(0, at) + (random.nextBoolean() ? "" : (char) random.nextInt(256)) + text.substring(at + 1);
+            String instead = random.nextBoolean() ? "" : String.valueOf((char) random.nextInt(256));
+            text = text.substring(0, at) + instead + text.substring(at + 1);
         }
         for (int i = 0; i < text.length();) {
             int n = Math.min(text.length() - i, 1 + random.nextInt(4));
@@ -161,6 +162,9 @@ public final class ModelTest {
         }
         if (odd && a.length > 0) {
             a[random.nextInt(a.length)] = ODD[random.nextInt(ODD.length)];
+        }
+        for (int k = 0; k < a.length && random.nextInt(40) == 0; k++) {
+            a[k] = ODD[random.nextInt(ODD.length)];
         }
         return a;
     }

@@ -27,6 +27,7 @@ public final class PeopleTest {
         eachThingByItself();
         allPlacesTaken();
         turnKeepsTheRest();
+        burnedStaysBurned();
         fullPockets();
         due.end();
     }
@@ -428,5 +429,27 @@ public final class PeopleTest {
         due.is("11: hand(0, 1, 15), to one who has all", x.hand(0, 1, 15), 1);
         due.is("11: of(1, 2), all", x.of(1, 2), 65535);
         due.is("11: of(0, 2), 15 less", x.of(0, 2), 32767);
+    }
+
+    private static void burnedStaysBurned() {
+        PocketBorders x = new PocketBorders();
+        Due.one(x, PERSON, 0, Due.set(5));
+        Due.one(x, PERSON, 0, 0);
+        due.is("12: border(0), 5 is burned", x.border(0), 5);
+        due.is("10: give(0, 5), burned", x.give(0, 5), 1);
+        due.is("14: now(1), given", x.now(1), Due.set(5));
+        due.is("11: hand(0, 1, 5), burned", x.hand(0, 1, 5), 1);
+        due.is("14: now(1), handed", x.now(1), Due.set(5));
+        x.set(0, 2, Due.set(5));
+        due.is("14: now(1), set", x.now(1), Due.set(5));
+        x.set(0, 2, 0);
+        x.years(1);
+        due.is("13: of(0, 2), 5 is found again", x.of(0, 2), Due.set(5));
+        due.is("14: now(1), found", x.now(1), Due.set(5));
+        x.set(0, 3, 1);
+        due.is("12: border(0), to 1", x.border(0), 5);
+        due.is("14: now(1), to 1", x.now(1), Due.set(5));
+        due.is("2: worth(5, 9), burned", x.worth(5, 9), 5);
+        due.is("14: now(1), of another worth", x.now(1), Due.set(5));
     }
 }

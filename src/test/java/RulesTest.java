@@ -28,7 +28,8 @@ public final class RulesTest {
 
     private static void face() {
         Class<?> c = PocketBorders.class;
-        due.is("public and final", c.getModifiers() & (Modifier.PUBLIC | Modifier.FINAL), Modifier.PUBLIC | Modifier.FINAL);
+        int publicAndFinal = Modifier.PUBLIC | Modifier.FINAL;
+        due.is("public and final", c.getModifiers() & publicAndFinal, publicAndFinal);
         due.same("package", c.getPackageName(), "");
         due.is("public constructors", c.getConstructors().length, 1);
         due.is("its parameters", c.getConstructors()[0].getParameterCount(), 0);
@@ -48,6 +49,11 @@ public final class RulesTest {
             boolean isLong = method.getName().equals("write");
             due.same("answer of " + method.getName(), method.getReturnType().getName(), isLong ? "long" : "int");
             due.is("static: " + method, Modifier.isStatic(method.getModifiers()) ? 1 : 0, 0);
+        }
+        for (Class<?> inside : c.getDeclaredClasses()) {
+            for (Method method : inside.getDeclaredMethods()) {
+                hidden.add(method.getName());
+            }
         }
         due.same("face", face.toString(), new TreeSet<>(Set.of(FACE.split("\\|"))).toString());
         for (String told : face) {

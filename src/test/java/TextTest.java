@@ -21,6 +21,7 @@ public final class TextTest {
         anyByte();
         endsTooEarly();
         whatATextLeaves();
+        nothingIsLeftOfATape();
         due.end();
     }
 
@@ -429,5 +430,31 @@ public final class TextTest {
         other.worth(5, 99);
         due.is("27: status(-1)", y.status(-1), 0);
         due.same("27: what comes by itself", Crowd.whole(y), Crowd.whole(other));
+    }
+
+    /** A text is not made longer by bytes that stood there ahead of it. */
+    private static void nothingIsLeftOfATape() {
+        String[] rows = {"person|pers", "hider|hide", "serious|s", "aunt|aun", "swallower|swallow", "uncle|unc",
+            "person age 7|person ag", "person has 1|person ha", "person cousin 0|person cous", "worth 1 2|wort",
+            "burned 1|burn"};
+        for (String row : rows) {
+            String[] texts = row.split("\\|");
+            int fault = texts[1].lastIndexOf(' ') + 1;
+            PocketBorders x = new PocketBorders();
+            Due.feedText(x, texts[0]);
+            x.wipe();
+            due.is("26: " + texts[1] + " where " + texts[0] + " was wiped", Due.family(x, texts[1]), -1 - fault);
+            due.is("27: " + texts[0], Due.family(x, texts[0]), 1);
+            due.is("27: " + texts[1] + " where " + texts[0] + " was read", Due.family(x, texts[1]), -1 - fault);
+            Due.family(x, texts[0] + "?");
+            due.is("27: " + texts[1] + " behind a fault", Due.family(x, texts[1]), -1 - fault);
+        }
+        PocketBorders x = new PocketBorders();
+        Due.family(x, "worth 1 23");
+        due.is("27: worth 1 2", Due.family(x, "worth 1 2"), 1);
+        due.is("27: worthOf(1)", x.worthOf(1), 2);
+        due.is("27: worth 1", Due.family(x, "worth 1"), -1 - 7);
+        due.is("27: worth", Due.family(x, "worth"), -1 - 5);
+        due.is("27: nothing", x.family(), -1);
     }
 }
