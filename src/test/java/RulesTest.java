@@ -17,7 +17,14 @@ public final class RulesTest {
         + "|fewest III|feed II|wipe |family |sheet III|write IIJ|copy IIIII|lays I|book II|read II|image |undo |tear "
         + "|count I|status I";
     private static final String[] FORBIDDEN = {"throw", "throws", "try", "catch", "synchronized", "assert", "finally",
-        "->", "::", "protected", "\\w*Exact", "hashCode", "toString", "System\\.out", "Random", "Thread", "volatile"};
+        "->", "::", "protected", "\\w*Exact", "hashCode", "toString", "System\\.out", "Random", "Thread", "volatile",
+        "Object", "native", "transient"};
+    private static final Set<String> CONSTANTS = Set.of("int", "long", "boolean", "char", "String", "int[]", "long[]",
+        "char[]", "byte[]");
+    // Less than rule 4 lists; what the class comes to need of the rest is added here.
+    private static final Set<String> LIBRARY = Set.of("Math.min", "Math.max", "Math.abs", "Integer.bitCount",
+        "System.arraycopy", "Arrays.fill", "Arrays.copyOf", "Arrays.copyOfRange");
+    private static final int LONGEST_METHOD = 60;
 
     public static void main(String[] args) throws Exception {
         face();
@@ -69,15 +76,29 @@ public final class RulesTest {
         }
         for (Field field : c.getDeclaredFields()) {
             due.is("private: " + field, Modifier.isPrivate(field.getModifiers()) ? 1 : 0, 1);
-            boolean isFinal = Modifier.isFinal(field.getModifiers());
-            due.is("static and not final: " + field, Modifier.isStatic(field.getModifiers()) && !isFinal ? 1 : 0, 0);
         }
         due.is("at most 12 classes inside", c.getDeclaredClasses().length <= 12 ? 1 : 0, 1);
+        shape(c);
         for (Class<?> inside : c.getDeclaredClasses()) {
             due.is("static: " + inside, Modifier.isStatic(inside.getModifiers()) ? 1 : 0, 1);
-            for (Method method : inside.getDeclaredMethods()) {
-                due.is("at most 7 parameters: " + method, method.getParameterCount() <= 7 ? 1 : 0, 1);
+            due.is("classes inside " + inside, inside.getDeclaredClasses().length, 0);
+            shape(inside);
+        }
+    }
+
+    private static void shape(Class<?> c) {
+        int fields = 0;
+        for (Field field : c.getDeclaredFields()) {
+            if (Modifier.isStatic(field.getModifiers())) {
+                due.is("final: " + field, Modifier.isFinal(field.getModifiers()) ? 1 : 0, 1);
+                due.is("a constant: " + field, CONSTANTS.contains(field.getType().getSimpleName()) ? 1 : 0, 1);
+            } else {
+                fields++;
             }
+        }
+        due.is("at most 20 fields: " + c, fields <= 20 ? 1 : 0, 1);
+        for (Method method : c.getDeclaredMethods()) {
+            due.is("at most 7 parameters: " + method, method.getParameterCount() <= 7 ? 1 : 0, 1);
         }
     }
 
@@ -92,6 +113,33 @@ public final class RulesTest {
         while (imports.find()) {
             due.same("import", imports.group(1), "java.util.Arrays");
         }
+        Matcher calls = Pattern.compile("\\b(Math|Integer|Long|System|Arrays|List|String)\\.\\w+").matcher(code);
+        while (calls.find()) {
+            due.is("of the library: " + calls.group(), LIBRARY.contains(calls.group()) ? 1 : 0, 1);
+        }
+        due.is("static blocks", Pattern.compile("\\bstatic\\s*\\{").matcher(code).find() ? 1 : 0, 0);
+        methodLengths(source);
         due.is("signs above 127", source.chars().filter(sign -> sign > 127).count(), 0);
+    }
+
+    /** A method begins with a line that opens its body, and ends with a brace that stands just as far in. */
+    private static void methodLengths(String source) {
+        Pattern opens = Pattern.compile("( {4}| {8})\\w[^=;]*\\(.*\\) \\{");
+        String[] lines = source.split("\n");
+        int methods = 0;
+        for (int first = 0; first < lines.length; first++) {
+            Matcher m = opens.matcher(lines[first]);
+            boolean isMethod = m.matches() && !lines[first].matches(" *(if|for|while|switch|do)\\b.*");
+            if (!isMethod) {
+                continue;
+            }
+            int last = first;
+            while (last < lines.length && !lines[last].equals(m.group(1) + "}")) {
+                last++;
+            }
+            due.is("at most 60 lines: " + lines[first], last - first + 1 <= LONGEST_METHOD ? 1 : 0, 1);
+            methods++;
+        }
+        due.is("methods of the face are among those measured", methods >= FACE.split("\\|").length ? 1 : 0, 1);
     }
 }
